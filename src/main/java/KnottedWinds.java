@@ -768,16 +768,14 @@ public final class KnottedWinds {
 
         private int along(int ship, int place, int what, int far) {
             int step = far < 0 ? -1 : 1;
-            int left = far * step;
             int there = place;
-            while (left > 0 && stateOf(there) == SAILING) {
+            for (int left = far * step; left > 0 && stateOf(there) == SAILING; left--) {
                 int row = cellOf(there) / SIDE + (what == SOUTH ? step : 0);
                 int column = cellOf(there) % SIDE + (what == EAST ? step : 0);
                 if (!within(row, SIDE) || !within(column, SIDE)) {
                     return there;
                 }
                 there = entered(ship, SIDE * row + column);
-                left--;
             }
             return there;
         }
@@ -943,13 +941,12 @@ public final class KnottedWinds {
                 return;
             }
             readLevel(level + 1, open);
-            boolean more = true;
-            while (more && !stuck && levelOf(next()) == level) {
+            int most = level == COMPARING ? 1 : MOST_BYTES;
+            for (int i = 0; i < most && !stuck && levelOf(next()) == level; i++) {
                 int operator = next();
                 at++;
                 readLevel(level + 1, open);
                 found.add(-operator);
-                more = level != COMPARING;
             }
         }
 
