@@ -1246,25 +1246,18 @@ public final class KnottedWinds {
         final int[] trace = new int[MOST_TRACED];
         int traced;
         boolean parted;
-        private final int[] begun = new int[MOST_TRACED];
-        private int begins;
         private int kind;
         private int m;
         private int k;
 
-        /** An answer that is PARTED leaves THE TRACE as it was: an ERROR changes nothing. */
+        /** THE TRACE holds the BODIES that began ahead of a parting, too; none begins behind it. */
         int answer(int ofKind, int number, int at, int voice, int x) {
             kind = ofKind;
             m = number;
             k = at;
             parted = false;
-            begins = 0;
-            int answer = speak(voice, kind, x, 0);
-            if (!parted) {
-                System.arraycopy(begun, 0, trace, 0, begins);
-                traced = begins;
-            }
-            return answer;
+            traced = 0;
+            return speak(voice, kind, x, 0);
         }
 
         /** The BODY of the KIND, or of the next one above that has one. */
@@ -1281,9 +1274,9 @@ public final class KnottedWinds {
         }
 
         private void begin(int body) {
-            if (begins < MOST_TRACED) {
-                begun[begins] = body;
-                begins++;
+            if (traced < MOST_TRACED) {
+                trace[traced] = body;
+                traced++;
             }
         }
 

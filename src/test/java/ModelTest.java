@@ -636,10 +636,11 @@ public final class ModelTest {
                     case 2: answer[0] = spoken.ties(x); break;
                     default: answer[0] = spoken.parts(x);
                 }
-                trace = bodies.size() > 30 ? bodies.subList(0, 30) : bodies;
                 return answer[0];
             } catch (Parting p) {
                 return err(PARTED);
+            } finally {
+                trace = bodies.size() > 30 ? bodies.subList(0, 30) : bodies;
             }
         }
 

@@ -836,11 +836,34 @@ public final class PromiseTest {
         due("none such", x.body(MOST), NONE);
         x.voice(1, 0, 1, 5);
         x.voice(1, 3, 0, 5);
-        due("an ERROR leaves the trace", x.body(0), 71);
-        x.tie(1, 0, 13, EAST);
-        due("parted", x.voice(1, 0, 3, 5), PARTED);
-        due("an ERROR leaves the trace", x.body(0), 71);
-        due("an ERROR leaves the trace", x.count(8), 3);
+        due("a voice that is BEYOND leaves the trace", x.body(0), 71);
+        due("a voice that is BEYOND leaves the trace", x.count(8), 3);
+        bodyOfParted(x);
+    }
+
+    /** Of each KIND parts() ends in BODY 13, and nothing begins behind it. */
+    private static void bodyOfParted(KnottedWinds x) {
+        int[][] traces = {{13}, {21, 13}, {13}, {13}, {21, 13}, {13}, {13}};
+        for (int kind = 0; kind < 7; kind++) {
+            x.tie(1, 0, 10 * kind + 3, EAST);
+            x.voice(1, 0, 2, 5);
+            due("parted", x.voice(1, 0, 3, 5), PARTED);
+            int[] trace = traces[kind];
+            due("length of a parted one", x.count(8), trace.length);
+            for (int i = 0; i < trace.length; i++) {
+                due("parted, kind " + kind + ", body " + i, x.body(i), trace[i]);
+            }
+            due("none such", x.body(trace.length), NONE);
+        }
+        x.image();
+        x.voice(1, 0, 1, 5);
+        x.restore();
+        due("an IMAGE keeps no trace", x.body(0), 71);
+        KnottedWinds y = new KnottedWinds();
+        due("none at first", y.body(0), NONE);
+        y.ship(0, 0);
+        due("parted", y.voice(0, 0, 3, 0), PARTED);
+        due("parted ahead of any other voice", y.body(0), 13);
     }
 
     private static void sheet() {
