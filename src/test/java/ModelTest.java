@@ -1113,6 +1113,24 @@ public final class ModelTest {
         due("home(" + ship + ", 48)", x.home(ship, 48), y.home(ship, 48));
     }
 
+    /** A knot whose parts() is now and then by 0, and all of THE TRACE behind it. */
+    private void callParting() {
+        if (y.now.ships.isEmpty()) {
+            return;
+        }
+        int ship = rnd(y.now.ships.size());
+        int knot = rnd(3);
+        int km = 10 * rnd(7) + Math.min(9, 3 * ship + knot + rnd(2));
+        due("tie(" + ship + ", " + knot + ", " + km + ", 0)", x.tie(ship, knot, km, 0),
+            y.sea("tie", ship, knot, km, 0));
+        int v = any();
+        due("voice(" + ship + ", " + knot + ", 3, " + v + ")", x.voice(ship, knot, 3, v), y.voice(ship, knot, 3, v));
+        due("count(8)", x.count(8), y.count(8));
+        for (int i = 0; i < 6; i++) {
+            due("body(" + i + ")", x.body(i), y.body(i));
+        }
+    }
+
     private void callSheets() {
         int sheet = arg(0, 3);
         int other = arg(0, 3);
@@ -1208,6 +1226,10 @@ public final class ModelTest {
                 break;
             }
             default: {
+                if (rnd(6) == 0) {
+                    callParting();
+                    break;
+                }
                 int ship = shipArg();
                 int knot = arg(0, 2);
                 int voice = arg(0, 3);
