@@ -7,7 +7,7 @@ public final class EdgeAheadTest extends Edges {
         x.drift(0, 3);
     }
 
-    /** A SHIP in CELL 0 with PORT 1, at 6 o'clock; its KNOT 0, TIED, brings it HOME in the HOUR h behind its loosing. */
+    /** A SHIP in CELL 0 with PORT 1, at 6 o'clock; its KNOT 0, TIED, brings it HOME h HOURS behind its loosing. */
     private static void knotOf(KnottedWinds x, int h) {
         x.ship(0, 1);
         x.hours(6);
@@ -33,15 +33,8 @@ public final class EdgeAheadTest extends Edges {
             knotOf(x, 48);
             x.loose(0, 0);
         }, x -> x.then(48, 0, 0));
-        refused("n -1", BEYOND, x -> x.then(-1, 0, 0));
-        refused("n 49", BEYOND, x -> x.then(49, 0, 0));
-        refused("the least n there is", BEYOND, x -> x.then(LEAST, 0, 0));
-        refused("the most n there is", BEYOND, x -> x.then(MOST, 0, 0));
-        refused("SHIP -1", BEYOND, x -> x.then(1, -1, 0));
-        refused("SHIP 3 of three", BEYOND, x -> x.then(1, 3, 0));
-        refused("SHIP 0 of none", BEYOND, Edges::nothing, x -> x.then(0, 0, 0));
-        refused("the least SHIP there is", BEYOND, x -> x.then(1, LEAST, 0));
-        refused("the most SHIP there is", BEYOND, x -> x.then(1, MOST, 0));
+        beyond("n", 0, 48, (x, v) -> x.then(v, 0, 0));
+        beyondShips((x, v) -> x.then(1, v, 0));
         onlyAsks("SHIP 4, the last of five", 33, x -> {
             fleet(x, 5);
             x.drift(0, 3);
@@ -63,10 +56,7 @@ public final class EdgeAheadTest extends Edges {
             drifting(x, 63, 6);
             x.tie(0, 2, 9, EAST);
         }, x -> x.then(48, 0, 4));
-        refused("what -1", BEYOND, x -> x.then(1, 0, -1));
-        refused("what 5", BEYOND, x -> x.then(1, 0, 5));
-        refused("the least what there is", BEYOND, x -> x.then(1, 0, LEAST));
-        refused("the most what there is", BEYOND, x -> x.then(1, 0, MOST));
+        beyond("what", 0, 4, (x, v) -> x.then(1, 0, v));
         onlyAsks("beyond HOUR 9999, too", 2, x -> drifting(x, 63, 9999), x -> x.then(2, 0, 0));
         onlyAsks("beyond HOUR 9999 a KNOT goes on, and ends", 3, x -> {
             x.ship(0, 63);
@@ -97,16 +87,10 @@ public final class EdgeAheadTest extends Edges {
             knotOf(x, 48);
             x.loose(0, 0);
         }, x -> x.home(0, 48));
-        refused("n -1", BEYOND, x -> x.home(2, -1));
-        refused("n 49", BEYOND, x -> x.home(2, 49));
-        refused("the least n there is", BEYOND, x -> x.home(2, LEAST));
-        refused("the most n there is", BEYOND, x -> x.home(2, MOST));
-        refused("SHIP -1", BEYOND, x -> x.home(-1, 48));
-        refused("SHIP 3 of three", BEYOND, x -> x.home(3, 48));
-        refused("SHIP 0 of none", BEYOND, Edges::nothing, x -> x.home(0, 0));
-        refused("the least SHIP there is", BEYOND, x -> x.home(LEAST, 48));
-        refused("the most SHIP there is", BEYOND, x -> x.home(MOST, 48));
+        beyond("n", 0, 48, (x, v) -> x.home(2, v));
+        beyondShips((x, v) -> x.home(v, 48));
         refused("a WRECKED one", NONE, x -> x.home(1, 48));
+        refused("BEYOND is asked ahead of NONE", BEYOND, x -> x.home(1, 49));
         refused("one that is WRECKED on its way", NONE, x -> {
             drifting(x, 7, 0);
             x.land(6, 1);
@@ -145,20 +129,11 @@ public final class EdgeAheadTest extends Edges {
 
     private static void soonest() {
         promise(20);
-        refused("n 0", BEYOND, x -> x.soonest(2, 0, 0));
-        refused("n 11", BEYOND, x -> x.soonest(2, 11, 0));
-        refused("n -1", BEYOND, x -> x.soonest(2, -1, 0));
-        refused("the least n there is", BEYOND, x -> x.soonest(2, LEAST, 0));
-        refused("the most n there is", BEYOND, x -> x.soonest(2, MOST, 0));
-        refused("what -1", BEYOND, x -> x.soonest(2, 5, -1));
-        refused("what 3", BEYOND, x -> x.soonest(2, 5, 3));
-        refused("the least what there is", BEYOND, x -> x.soonest(2, 5, LEAST));
-        refused("the most what there is", BEYOND, x -> x.soonest(2, 5, MOST));
-        refused("SHIP -1", BEYOND, x -> x.soonest(-1, 5, 0));
-        refused("SHIP 3 of three", BEYOND, x -> x.soonest(3, 5, 0));
-        refused("SHIP 0 of none", BEYOND, Edges::nothing, x -> x.soonest(0, 5, 0));
-        refused("the least SHIP there is", BEYOND, x -> x.soonest(LEAST, 5, 0));
-        refused("the most SHIP there is", BEYOND, x -> x.soonest(MOST, 5, 0));
+        beyond("n", 1, 10, (x, v) -> x.soonest(2, v, 0));
+        beyond("what", 0, 2, (x, v) -> x.soonest(2, 5, v));
+        beyondShips((x, v) -> x.soonest(v, 5, 0));
+        refused("BEYOND of n is asked ahead of NONE", BEYOND, x -> x.soonest(1, 11, 0));
+        refused("BEYOND of what is asked ahead of NONE", BEYOND, x -> x.soonest(1, 10, 3));
         soonestIs("a HOME one, n 1, the least", x -> x.ship(9, 9), 1, 0, 3, 0);
         soonestIs("a HOME one, n 10, the most", x -> x.ship(9, 9), 10, 0, 3, 0);
         soonestIs("by DRIFT, n just so", x -> drifting(x, 7, 6), 7, 7, 3, 0);
@@ -196,7 +171,7 @@ public final class EdgeAheadTest extends Edges {
         neverSoonest("HOUR 10002, beyond 9999, is night", x -> aheadOfTheFourth(x, 9999), 10);
     }
 
-    /** HOME in CELL 12, if its KNOT 2, to the south, is loosed ahead of the fourth HOUR; ahead of others it never is. */
+    /** HOME in CELL 12, if its KNOT 2, to the south, is loosed ahead of the fourth HOUR, and of no other. */
     private static void aheadOfTheFourth(KnottedWinds x, int hour) {
         x.ship(0, 12);
         for (int land = 9; land < 12; land++) {
@@ -344,15 +319,8 @@ public final class EdgeAheadTest extends Edges {
         Run one = from(6);
         bestIs("n 1, the least", one, 1, 1, 1);
         bestIs("n 24, the most", one, 24, 1, 1);
-        refused("n 0", BEYOND, one, x -> x.bestKnot(0, 0));
-        refused("n 25", BEYOND, one, x -> x.bestKnot(25, 0));
-        refused("n -1", BEYOND, one, x -> x.bestKnot(-1, 0));
-        refused("the least n there is", BEYOND, one, x -> x.bestKnot(LEAST, 0));
-        refused("the most n there is", BEYOND, one, x -> x.bestKnot(MOST, 0));
-        refused("what -1", BEYOND, one, x -> x.bestKnot(1, -1));
-        refused("what 2", BEYOND, one, x -> x.bestKnot(1, 2));
-        refused("the least what there is", BEYOND, one, x -> x.bestKnot(1, LEAST));
-        refused("the most what there is", BEYOND, one, x -> x.bestKnot(1, MOST));
+        beyond("n", 1, 24, one, (x, v) -> x.bestKnot(v, 0));
+        beyond("what", 0, 1, one, (x, v) -> x.bestKnot(1, v));
         refused("BEYOND is asked ahead of NONE", BEYOND, Edges::nothing, x -> x.bestKnot(25, 0));
         noneIsBest("no SHIPS", Edges::nothing, 1);
         bestIs("HOME in the 24th HOUR of 24", x -> knotOf(x, 23), 24, 0, 1);
@@ -493,7 +461,7 @@ public final class EdgeAheadTest extends Edges {
 
     // ---- who
 
-    /** SHIPS 0, 1 in CELLS 0, 8, KNOT 1 of SHIP 0 blows east by one; SHEET 0 tells these CELLS; an IMAGE in this HOUR. */
+    /** SHIPS in CELLS 0, 8; KNOT 1 of SHIP 0 blows east by one; an IMAGE in this HOUR; SHEET 0 tells these CELLS. */
     private static Run told(int hour, int... cells) {
         return x -> {
             fleet(x, 2);
@@ -520,19 +488,9 @@ public final class EdgeAheadTest extends Edges {
     private static void who() {
         promise(22);
         Run two = told(6, 1, 9);
-        refused("SHEET -1", BEYOND, two, x -> x.who(-1, 1, 0));
-        refused("SHEET 4", BEYOND, two, x -> x.who(4, 1, 0));
-        refused("the least SHEET there is", BEYOND, two, x -> x.who(LEAST, 1, 0));
-        refused("the most SHEET there is", BEYOND, two, x -> x.who(MOST, 1, 0));
-        refused("n 0", BEYOND, two, x -> x.who(0, 0, 0));
-        refused("n 25", BEYOND, two, x -> x.who(0, 25, 0));
-        refused("n -1", BEYOND, two, x -> x.who(0, -1, 0));
-        refused("the least n there is", BEYOND, two, x -> x.who(0, LEAST, 0));
-        refused("the most n there is", BEYOND, two, x -> x.who(0, MOST, 0));
-        refused("what -1", BEYOND, two, x -> x.who(0, 1, -1));
-        refused("what 3", BEYOND, two, x -> x.who(0, 1, 3));
-        refused("the least what there is", BEYOND, two, x -> x.who(0, 1, LEAST));
-        refused("the most what there is", BEYOND, two, x -> x.who(0, 1, MOST));
+        beyond("SHEET", 0, 3, two, (x, v) -> x.who(v, 1, 0));
+        beyond("n", 1, 24, two, (x, v) -> x.who(0, v, 0));
+        beyond("what", 0, 2, two, (x, v) -> x.who(0, 1, v));
         refused("BEYOND is asked ahead of NONE", BEYOND, Edges::nothing, x -> x.who(0, 25, 0));
         onlyAsks("SHEET 3, the last", 1, x -> {
             told(6, 1, 9).on(x);
@@ -606,7 +564,8 @@ public final class EdgeAheadTest extends Edges {
             whoIs("WAY " + way + ", it lies the other WAY", toldBehind(ways(way, 63, 3), AROUND[(way + 2) % 4]), 1,
                 0, -1, 0);
         }
-        whoIs("what is loosed blows on to the east, and ends", toldBehind(acrossBlown(63, EAST, NORTH), 10), 3, 1, 1, 3);
+        whoIs("what is loosed blows on to the east, and ends", toldBehind(acrossBlown(63, EAST, NORTH), 10), 3, 1, 1,
+            3);
         whoIs("what is loosed blows on to the south, and ends", toldBehind(acrossBlown(63, SOUTH, WEST), 17), 3, 1, 1,
             3);
         whoIs("in its PORT it stays, as the IMAGE has its PORT", toldBehind(from(6), 1), 3, 1, 1, 3);
@@ -741,19 +700,9 @@ public final class EdgeAheadTest extends Edges {
         }, x -> x.race(0, 1, 10));
         refused("one twice", BEYOND, four, x -> x.race(1, 1, 10));
         refused("SHIP 0 twice", BEYOND, four, x -> x.race(0, 0, 10));
-        refused("n 0", BEYOND, four, x -> x.race(0, 1, 0));
-        refused("n 11", BEYOND, four, x -> x.race(0, 1, 11));
-        refused("n -1", BEYOND, four, x -> x.race(0, 1, -1));
-        refused("the least n there is", BEYOND, four, x -> x.race(0, 1, LEAST));
-        refused("the most n there is", BEYOND, four, x -> x.race(0, 1, MOST));
-        refused("the first is -1", BEYOND, four, x -> x.race(-1, 1, 10));
-        refused("the first is 4 of four", BEYOND, four, x -> x.race(4, 1, 10));
-        refused("the other is -1", BEYOND, four, x -> x.race(1, -1, 10));
-        refused("the other is 4 of four", BEYOND, four, x -> x.race(1, 4, 10));
-        refused("the least first there is", BEYOND, four, x -> x.race(LEAST, 1, 10));
-        refused("the most first there is", BEYOND, four, x -> x.race(MOST, 1, 10));
-        refused("the least other there is", BEYOND, four, x -> x.race(1, LEAST, 10));
-        refused("the most other there is", BEYOND, four, x -> x.race(1, MOST, 10));
+        beyond("n", 1, 10, four, (x, v) -> x.race(0, 1, v));
+        beyond("the first of four is", 0, 3, four, (x, v) -> x.race(v, 1, 10));
+        beyond("the other of four is", 0, 3, four, (x, v) -> x.race(1, v, 10));
         refused("no SHIPS", BEYOND, Edges::nothing, x -> x.race(0, 1, 10));
         refused("one SHIP alone", BEYOND, x -> x.ship(9, 9), x -> x.race(0, 1, 10));
     }

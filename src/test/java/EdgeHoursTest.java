@@ -36,11 +36,7 @@ public final class EdgeHoursTest extends Edges {
             due(x.hours(48), 0);
             due(x.count(1), 48);
         });
-        refused("n 0", BEYOND, x -> x.hours(0));
-        refused("n 49", BEYOND, x -> x.hours(49));
-        refused("n -1", BEYOND, x -> x.hours(-1));
-        refused("the least n there is", BEYOND, x -> x.hours(LEAST));
-        refused("the most n there is", BEYOND, x -> x.hours(MOST));
+        beyond("n", 1, 48, (x, v) -> x.hours(v));
         edge("to HOUR 9999, the last, by 1", x -> {
             till(x, 9998);
             due(x.hours(1), 0);
@@ -301,11 +297,7 @@ public final class EdgeHoursTest extends Edges {
             due(x.count(1), 48);
             due(x.count(9), drawnBy(1, 24 + 2 * 24));
         });
-        refused("n 0", BEYOND, x -> x.draws(0));
-        refused("n 49", BEYOND, x -> x.draws(49));
-        refused("n -1", BEYOND, x -> x.draws(-1));
-        refused("the least n there is", BEYOND, x -> x.draws(LEAST));
-        refused("the most n there is", BEYOND, x -> x.draws(MOST));
+        beyond("n", 1, 48, (x, v) -> x.draws(v));
         refused("there are no SHIPS", STATE, x -> x.hours(6), x -> x.draws(1));
         refused("there are no SHIPS, n 48", STATE, Edges::nothing, x -> x.draws(48));
         refused("no SHIPS: BEYOND is asked ahead of STATE", BEYOND, Edges::nothing, x -> x.draws(49));

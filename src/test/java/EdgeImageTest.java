@@ -344,10 +344,7 @@ public final class EdgeImageTest extends Edges {
 
     private static void count() {
         promise(35);
-        refused("what -1", BEYOND, x -> x.count(-1));
-        refused("what 12", BEYOND, x -> x.count(12));
-        refused("the least what there is", BEYOND, x -> x.count(LEAST));
-        refused("the most what there is", BEYOND, x -> x.count(MOST));
+        beyond("what", 0, 11, (x, v) -> x.count(v));
         counts("no SHIPS", 0, 0, Edges::nothing);
         counts("five SHIPS, the most", 0, 5, x -> fleet(x, 5));
         counts("HOUR 0, the least", 1, 0, Edges::nothing);
@@ -435,11 +432,7 @@ public final class EdgeImageTest extends Edges {
                 }
             });
         }
-        refused("k 0", BEYOND, x -> x.told(0));
-        refused("k 7", BEYOND, x -> x.told(7));
-        refused("k -1", BEYOND, x -> x.told(-1));
-        refused("the least k there is", BEYOND, x -> x.told(LEAST));
-        refused("the most k there is", BEYOND, x -> x.told(MOST));
+        beyond("k", 1, 6, (x, v) -> x.told(v));
         edge("another k is counted, too", x -> {
             due(x.told(0), BEYOND);
             due(x.told(7), BEYOND);

@@ -82,10 +82,7 @@ public final class EdgeSeaTest extends Edges {
             due(x.land(63, 1), 0);
             due(x.land(63, 0), 1);
         });
-        refused("CELL -1", BEYOND, x -> x.land(-1, 1));
-        refused("CELL 64", BEYOND, x -> x.land(64, 1));
-        refused("the least CELL there is", BEYOND, x -> x.land(LEAST, 1));
-        refused("the most CELL there is", BEYOND, x -> x.land(MOST, 1));
+        beyond("CELL", 0, 63, (x, v) -> x.land(v, 1));
         edge("v 0, water again", x -> {
             x.land(5, 1);
             due(x.land(5, 0), 1);
@@ -96,10 +93,7 @@ public final class EdgeSeaTest extends Edges {
             due(x.land(5, 1), 1);
             due(x.land(5, 1), 1);
         });
-        refused("v -1", BEYOND, x -> x.land(27, -1));
-        refused("v 2", BEYOND, x -> x.land(5, 2));
-        refused("the least v there is", BEYOND, x -> x.land(27, LEAST));
-        refused("the most v there is", BEYOND, x -> x.land(5, MOST));
+        beyond("v", 0, 1, (x, v) -> x.land(27, v));
         edge("no other CELL becomes LAND", x -> {
             x.land(9, 1);
             for (int cell = 0; cell < 64; cell++) {
@@ -152,10 +146,7 @@ public final class EdgeSeaTest extends Edges {
             due(x.wind(0), 0);
             due(x.wind(1), 4);
         });
-        refused("what -1", BEYOND, x -> x.drift(-1, 4));
-        refused("what 2", BEYOND, x -> x.drift(2, 4));
-        refused("the least what there is", BEYOND, x -> x.drift(LEAST, 4));
-        refused("the most what there is", BEYOND, x -> x.drift(MOST, 4));
+        beyond("what", 0, 1, (x, v) -> x.drift(v, 4));
         for (int what = 0; what < 2; what++) {
             int w = what;
             edge("v -9 of " + w + ", the least", x -> {
@@ -166,10 +157,7 @@ public final class EdgeSeaTest extends Edges {
                 due(x.drift(w, 9), 0);
                 due(x.drift(w, 0), 9);
             });
-            refused("v -10 of " + w, BEYOND, x -> x.drift(w, -10));
-            refused("v 10 of " + w, BEYOND, x -> x.drift(w, 10));
-            refused("the least v there is of " + w, BEYOND, x -> x.drift(w, LEAST));
-            refused("the most v there is of " + w, BEYOND, x -> x.drift(w, MOST));
+            beyond("v of " + w + ":", -9, 9, (x, v) -> x.drift(w, v));
         }
         edge("what it was, where it stays the same", x -> {
             x.drift(0, -7);
@@ -204,10 +192,7 @@ public final class EdgeSeaTest extends Edges {
             due(x.ship(63, 5), 0);
             due(x.shipIs(0, 0), 63);
         });
-        refused("CELL -1", BEYOND, x -> x.ship(-1, 5));
-        refused("CELL 64", BEYOND, x -> x.ship(64, 5));
-        refused("the least CELL there is", BEYOND, x -> x.ship(LEAST, 5));
-        refused("the most CELL there is", BEYOND, x -> x.ship(MOST, 5));
+        beyond("CELL", 0, 63, (x, v) -> x.ship(v, 5));
         edge("PORT 0, the first", x -> {
             due(x.ship(5, 0), 0);
             due(x.shipIs(0, 1), 0);
@@ -216,10 +201,7 @@ public final class EdgeSeaTest extends Edges {
             due(x.ship(5, 63), 0);
             due(x.shipIs(0, 1), 63);
         });
-        refused("PORT -1", BEYOND, x -> x.ship(5, -1));
-        refused("PORT 64", BEYOND, x -> x.ship(5, 64));
-        refused("the least PORT there is", BEYOND, x -> x.ship(5, LEAST));
-        refused("the most PORT there is", BEYOND, x -> x.ship(5, MOST));
+        beyond("PORT", 0, 63, (x, v) -> x.ship(5, v));
         edge("SAILING at first", x -> {
             x.ship(5, 6);
             due(x.shipIs(0, 2), 0);
@@ -281,10 +263,7 @@ public final class EdgeSeaTest extends Edges {
         onlyAsks("what 2: 2 HOME", 2, Edges::some, x -> x.shipIs(2, 2));
         onlyAsks("what 3: TIED ones", 2, Edges::some, x -> x.shipIs(0, 3));
         onlyAsks("what 4, the last: WORTH", 5 + 9 * 2, Edges::some, x -> x.shipIs(0, 4));
-        refused("what -1", BEYOND, x -> x.shipIs(0, -1));
-        refused("what 5", BEYOND, x -> x.shipIs(0, 5));
-        refused("the least what there is", BEYOND, x -> x.shipIs(0, LEAST));
-        refused("the most what there is", BEYOND, x -> x.shipIs(0, MOST));
+        beyond("what", 0, 4, (x, v) -> x.shipIs(0, v));
         edge("all three TIED", x -> {
             x.ship(5, 6);
             due(x.shipIs(0, 3), 3);
@@ -331,15 +310,8 @@ public final class EdgeSeaTest extends Edges {
             due(x.bring(0, 63), 5);
             due(x.shipIs(0, 0), 63);
         });
-        refused("CELL -1", BEYOND, x -> x.bring(0, -1));
-        refused("CELL 64", BEYOND, x -> x.bring(0, 64));
-        refused("the least CELL there is", BEYOND, x -> x.bring(0, LEAST));
-        refused("the most CELL there is", BEYOND, x -> x.bring(0, MOST));
-        refused("SHIP -1", BEYOND, x -> x.bring(-1, 5));
-        refused("SHIP 3 of three", BEYOND, x -> x.bring(3, 5));
-        refused("SHIP 0 of none", BEYOND, Edges::nothing, x -> x.bring(0, 5));
-        refused("the least SHIP there is", BEYOND, x -> x.bring(LEAST, 5));
-        refused("the most SHIP there is", BEYOND, x -> x.bring(MOST, 5));
+        beyond("CELL", 0, 63, (x, v) -> x.bring(0, v));
+        beyondShips((x, v) -> x.bring(v, 5));
         edge("SHIP 4, the last of five", x -> {
             fleet(x, 5);
             due(x.bring(4, 1), 32);
@@ -413,15 +385,8 @@ public final class EdgeSeaTest extends Edges {
             due(x.tie(0, 1, 0, 0), 0);
             due(x.tie(0, 2, 0, 0), 222);
         });
-        refused("KNOT -1", BEYOND, x -> x.tie(1, -1, 11, 1));
-        refused("KNOT 3", BEYOND, x -> x.tie(1, 3, 11, 1));
-        refused("the least KNOT there is", BEYOND, x -> x.tie(1, LEAST, 11, 1));
-        refused("the most KNOT there is", BEYOND, x -> x.tie(1, MOST, 11, 1));
-        refused("SHIP -1", BEYOND, x -> x.tie(-1, 0, 11, 1));
-        refused("SHIP 3 of three", BEYOND, x -> x.tie(3, 0, 11, 1));
-        refused("SHIP 0 of none", BEYOND, Edges::nothing, x -> x.tie(0, 0, 11, 1));
-        refused("the least SHIP there is", BEYOND, x -> x.tie(LEAST, 0, 11, 1));
-        refused("the most SHIP there is", BEYOND, x -> x.tie(MOST, 0, 11, 1));
+        beyond("KNOT", 0, 2, (x, v) -> x.tie(1, v, 11, 1));
+        beyondShips((x, v) -> x.tie(v, 0, 11, 1));
         edge("SHIP 4, KNOT 2, the last of all", x -> {
             fleet(x, 5);
             due(x.tie(4, 2, 69, 3), 0);
@@ -448,10 +413,7 @@ public final class EdgeSeaTest extends Edges {
             due(x.knotIs(0, 1, 0), 1);
             due(x.knotIs(0, 1, 1), 0);
         });
-        refused("km -1", BEYOND, x -> x.tie(0, 0, -1, 1));
-        refused("km 70", BEYOND, x -> x.tie(0, 0, 70, 1));
-        refused("the least km there is", BEYOND, x -> x.tie(0, 0, LEAST, 1));
-        refused("the most km there is", BEYOND, x -> x.tie(0, 0, MOST, 1));
+        beyond("km", 0, 69, (x, v) -> x.tie(0, 0, v, 1));
         edge("WAY 0, the least", x -> {
             x.ship(5, 6);
             x.tie(0, 0, 5, 3);
@@ -463,10 +425,7 @@ public final class EdgeSeaTest extends Edges {
             due(x.tie(0, 0, 5, 3), 0);
             due(x.knotIs(0, 0, 2), 3);
         });
-        refused("WAY -1", BEYOND, x -> x.tie(0, 0, 11, -1));
-        refused("WAY 4", BEYOND, x -> x.tie(0, 0, 11, 4));
-        refused("the least WAY there is", BEYOND, x -> x.tie(0, 0, 11, LEAST));
-        refused("the most WAY there is", BEYOND, x -> x.tie(0, 0, 11, MOST));
+        beyond("WAY", 0, 3, (x, v) -> x.tie(0, 0, 11, v));
         edge("a loosed one is TIED then, and blows no more", x -> {
             lone(x);
             x.tie(0, 0, 9, EAST);
@@ -625,19 +584,9 @@ public final class EdgeSeaTest extends Edges {
         onlyAsks("what 4: 0, TIED", 0, Edges::some, x -> x.knotIs(0, 1, 4));
         onlyAsks("what 5, the last: PRICE", 5 + 9 * 2, Edges::some, x -> x.knotIs(0, 1, 5));
         onlyAsks("what 5: 0, loosed", 0, Edges::some, x -> x.knotIs(0, 0, 5));
-        refused("what -1", BEYOND, x -> x.knotIs(0, 0, -1));
-        refused("what 6", BEYOND, x -> x.knotIs(0, 0, 6));
-        refused("the least what there is", BEYOND, x -> x.knotIs(0, 0, LEAST));
-        refused("the most what there is", BEYOND, x -> x.knotIs(0, 0, MOST));
-        refused("KNOT -1", BEYOND, x -> x.knotIs(1, -1, 0));
-        refused("KNOT 3", BEYOND, x -> x.knotIs(1, 3, 0));
-        refused("the least KNOT there is", BEYOND, x -> x.knotIs(1, LEAST, 0));
-        refused("the most KNOT there is", BEYOND, x -> x.knotIs(1, MOST, 0));
-        refused("SHIP -1", BEYOND, x -> x.knotIs(-1, 0, 0));
-        refused("SHIP 3 of three", BEYOND, x -> x.knotIs(3, 0, 0));
-        refused("SHIP 0 of none", BEYOND, Edges::nothing, x -> x.knotIs(0, 0, 0));
-        refused("the least SHIP there is", BEYOND, x -> x.knotIs(LEAST, 0, 0));
-        refused("the most SHIP there is", BEYOND, x -> x.knotIs(MOST, 0, 0));
+        beyond("what", 0, 5, (x, v) -> x.knotIs(0, 0, v));
+        beyond("KNOT", 0, 2, (x, v) -> x.knotIs(1, v, 0));
+        beyondShips((x, v) -> x.knotIs(v, 0, 0));
         edge("HOUR 9999, the last in which one may be loosed", x -> {
             x.ship(5, 6);
             till(x, 9999);
@@ -672,19 +621,9 @@ public final class EdgeSeaTest extends Edges {
             }
         }
         onlyAsks("a loosed one, too", 3, Edges::some, x -> x.as(0, 0, 6));
-        refused("KIND -1", BEYOND, x -> x.as(0, 0, -1));
-        refused("KIND 7", BEYOND, x -> x.as(0, 0, 7));
-        refused("the least KIND there is", BEYOND, x -> x.as(0, 0, LEAST));
-        refused("the most KIND there is", BEYOND, x -> x.as(0, 0, MOST));
-        refused("KNOT -1", BEYOND, x -> x.as(1, -1, 0));
-        refused("KNOT 3", BEYOND, x -> x.as(1, 3, 0));
-        refused("the least KNOT there is", BEYOND, x -> x.as(1, LEAST, 0));
-        refused("the most KNOT there is", BEYOND, x -> x.as(1, MOST, 0));
-        refused("SHIP -1", BEYOND, x -> x.as(-1, 0, 0));
-        refused("SHIP 3 of three", BEYOND, x -> x.as(3, 0, 0));
-        refused("SHIP 0 of none", BEYOND, Edges::nothing, x -> x.as(0, 0, 0));
-        refused("the least SHIP there is", BEYOND, x -> x.as(LEAST, 0, 0));
-        refused("the most SHIP there is", BEYOND, x -> x.as(MOST, 0, 0));
+        beyond("KIND", 0, 6, (x, v) -> x.as(0, 0, v));
+        beyond("KNOT", 0, 2, (x, v) -> x.as(1, v, 0));
+        beyondShips((x, v) -> x.as(v, 0, 0));
     }
 
     private static void dayBegins(int hour, boolean is) {
@@ -753,15 +692,8 @@ public final class EdgeSeaTest extends Edges {
             due(x.loose(4, 2), 9);
             due(x.count(5), 14);
         });
-        refused("KNOT -1", BEYOND, x -> x.loose(2, -1));
-        refused("KNOT 3", BEYOND, x -> x.loose(0, 3));
-        refused("the least KNOT there is", BEYOND, x -> x.loose(0, LEAST));
-        refused("the most KNOT there is", BEYOND, x -> x.loose(0, MOST));
-        refused("SHIP -1", BEYOND, x -> x.loose(-1, 0));
-        refused("SHIP 3 of three", BEYOND, x -> x.loose(3, 0));
-        refused("SHIP 0 of none", BEYOND, Edges::nothing, x -> x.loose(0, 0));
-        refused("the least SHIP there is", BEYOND, x -> x.loose(LEAST, 0));
-        refused("the most SHIP there is", BEYOND, x -> x.loose(MOST, 0));
+        beyond("KNOT", 0, 2, (x, v) -> x.loose(0, v));
+        beyondShips((x, v) -> x.loose(v, 0));
         refused("BEYOND is asked ahead of STATE", BEYOND, x -> x.ship(0, 63), x -> x.loose(0, 3));
         looseAnswers();
     }
@@ -859,10 +791,7 @@ public final class EdgeSeaTest extends Edges {
         });
         onlyAsks("what 0 is EAST", 1 + 3, Edges::some, x -> x.wind(0));
         onlyAsks("what 1 is SOUTH", 3 + 2, Edges::some, x -> x.wind(1));
-        refused("what -1", BEYOND, x -> x.wind(-1));
-        refused("what 2", BEYOND, x -> x.wind(2));
-        refused("the least what there is", BEYOND, x -> x.wind(LEAST));
-        refused("the most what there is", BEYOND, x -> x.wind(MOST));
+        beyond("what", 0, 1, (x, v) -> x.wind(v));
     }
 
     private static void allLoosed(KnottedWinds x, int km, int way) {

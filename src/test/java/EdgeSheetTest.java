@@ -1,7 +1,6 @@
 /** Promises 26 to 30, each boundary case by itself: SHEETS. SHIP 0 is there to read them by. */
 public final class EdgeSheetTest extends Edges {
     private static final int[] NO_BITS = {-32, -16, -8, -1, 1, 4, 7, 9, 12, 15, 17, 24, 31, 33, 40, 64, LEAST, MOST};
-    private static final int[] NO_SHEETS = {-1, 4, LEAST, MOST};
 
     /** That a SHEET has just these numbers, in 0 .. 63: each is moved to SHEET 3, and told by where SHIP 0 lies. */
     private static void holds(KnottedWinds x, int sheet, int bits, int... numbers) {
@@ -40,11 +39,9 @@ public final class EdgeSheetTest extends Edges {
                 }
             });
         }
-        for (int sheet : NO_SHEETS) {
-            refused("SHEET " + sheet, BEYOND, x -> x.sheet(sheet, 8, 2));
-            refused("SHEET " + sheet + " of 0 bits", BEYOND, x -> x.sheet(sheet, 0, 2));
-            refused("SHEET " + sheet + ": BEYOND is asked ahead of STATE", BEYOND, x -> x.sheet(sheet, 8, -1));
-        }
+        beyond("SHEET", 0, 3, (x, v) -> x.sheet(v, 8, 2));
+        beyond("bits 0, SHEET", 0, 3, (x, v) -> x.sheet(v, 0, 2));
+        beyond("n -1, BEYOND is asked ahead of STATE, SHEET", 0, 3, (x, v) -> x.sheet(v, 8, -1));
         for (int bits : NO_BITS) {
             refused("bits " + bits, BEYOND, x -> x.sheet(0, bits, 2));
             refused("bits " + bits + ": BEYOND is asked ahead of STATE", BEYOND, x -> x.sheet(0, bits, -1));
@@ -125,9 +122,7 @@ public final class EdgeSheetTest extends Edges {
 
     private static void put() {
         promise(27);
-        for (int sheet : NO_SHEETS) {
-            refused("SHEET " + sheet, BEYOND, x -> x.put(sheet, 0, 1));
-        }
+        beyond("SHEET", 0, 3, (x, v) -> x.put(v, 0, 1));
         for (int i : new int[] {0, -1, 24, LEAST, MOST}) {
             refused("it is missing: NONE is asked ahead of BEYOND of number " + i, NONE, x -> x.put(3, i, 1));
         }
@@ -223,13 +218,11 @@ public final class EdgeSheetTest extends Edges {
 
     private static void move() {
         promise(28);
-        for (int sheet : NO_SHEETS) {
-            refused("SHEET " + sheet, BEYOND, x -> x.move(sheet, 0, 0, 0, 1));
-            refused("the other SHEET " + sheet, BEYOND, x -> x.move(0, 0, sheet, 0, 1));
-            refused("SHEET " + sheet + ": BEYOND is asked ahead of NONE", BEYOND, x -> x.move(sheet, 0, 3, 0, 1));
-            refused("the other SHEET " + sheet + ": BEYOND is asked ahead of NONE", BEYOND,
-                x -> x.move(3, 0, sheet, 0, 1));
-        }
+        beyond("SHEET", 0, 3, (x, v) -> x.move(v, 0, 0, 0, 1));
+        beyond("the other SHEET", 0, 3, (x, v) -> x.move(0, 0, v, 0, 1));
+        beyond("the other is missing, BEYOND is asked ahead of NONE, SHEET", 0, 3, (x, v) -> x.move(v, 0, 3, 0, 1));
+        beyond("one is missing, BEYOND is asked ahead of NONE, the other SHEET", 0, 3,
+            (x, v) -> x.move(3, 0, v, 0, 1));
         refused("the SHEET is missing", NONE, x -> x.move(3, 0, 0, 0, 1));
         refused("the other SHEET is missing", NONE, x -> x.move(0, 0, 3, 0, 1));
         refused("both are missing", NONE, x -> x.move(3, 0, 3, 0, 0));
@@ -344,9 +337,7 @@ public final class EdgeSheetTest extends Edges {
 
     private static void lands() {
         promise(29);
-        for (int sheet : NO_SHEETS) {
-            refused("SHEET " + sheet, BEYOND, x -> x.lands(sheet));
-        }
+        beyond("SHEET", 0, 3, (x, v) -> x.lands(v));
         refused("the SHEET is missing", NONE, x -> x.lands(3));
         edge("SHEET 3, the last", x -> {
             begin(x, 3, 8, 9);
@@ -448,14 +439,10 @@ public final class EdgeSheetTest extends Edges {
 
     private static void judge() {
         promise(30);
-        for (int sheet : NO_SHEETS) {
-            refused("SHEET " + sheet, BEYOND, x -> x.judge(sheet, 0));
-        }
-        for (int ship : new int[] {-1, 3, LEAST, MOST}) {
-            refused("SHIP " + ship + " of three", BEYOND, x -> x.judge(0, ship));
-            refused("SHIP " + ship + " of three: BEYOND is asked ahead of NONE", BEYOND, x -> x.judge(3, ship));
-        }
-        refused("SHIP 0 of none", BEYOND, x -> x.sheet(0, 8, 1), x -> x.judge(0, 0));
+        beyond("SHEET", 0, 3, (x, v) -> x.judge(v, 0));
+        beyondShips((x, v) -> x.judge(0, v));
+        beyond("the SHEET is missing, BEYOND is asked ahead of NONE, SHIP of three", 0, 2, (x, v) -> x.judge(3, v));
+        refused("SHIP 0 of none, the SHEET being there", BEYOND, x -> x.sheet(0, 8, 1), x -> x.judge(0, 0));
         refused("the SHEET is missing", NONE, x -> x.judge(3, 0));
         onlyAsks("no numbers: 0, as many as there are", 0, course(), x -> x.judge(0, 0));
         onlyAsks("number 0 is behind 0 HOURS: now", 1, course(0), x -> x.judge(0, 0));

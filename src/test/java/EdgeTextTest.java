@@ -36,11 +36,7 @@ public final class EdgeTextTest extends Edges {
             due(x.text(1), 1);
             due(price(x), 123);
         });
-        refused("n 0", BEYOND, x -> x.feed(0x31L, 0));
-        refused("n 9", BEYOND, x -> x.feed(0x31L, 9));
-        refused("n -1", BEYOND, x -> x.feed(0x31L, -1));
-        refused("the least n there is", BEYOND, x -> x.feed(0x31L, LEAST));
-        refused("the most n there is", BEYOND, x -> x.feed(0x31L, MOST));
+        beyond("n", 1, 8, (x, v) -> x.feed(0x31L, v));
         edge("60 bytes, all places taken, one by one", x -> {
             for (int i = 1; i <= 60; i++) {
                 due(x.feed(0x31L, 1), i);
@@ -113,10 +109,7 @@ public final class EdgeTextTest extends Edges {
             due(x.untell(0), 0);
             due(x.untell(1), 1);
         });
-        refused("USE -1: THE TAPE stays", BEYOND, x -> x.text(-1));
-        refused("USE 2: THE TAPE stays", BEYOND, x -> x.text(2));
-        refused("the least USE there is", BEYOND, x -> x.text(LEAST));
-        refused("the most USE there is", BEYOND, x -> x.text(MOST));
+        beyond("USE", 0, 1, (x, v) -> x.text(v));
         refused("BEYOND is asked ahead of the FAULT", BEYOND, x -> feed(x, "+"), x -> x.text(2));
         edge("THE TAPE is empty behind a TEXT", x -> {
             text(x, 1, "5+5");
@@ -374,10 +367,7 @@ public final class EdgeTextTest extends Edges {
             due(x.untell(1), 1);
             due(x.untell(0), 1);
         });
-        refused("USE -1", BEYOND, x -> x.untell(-1));
-        refused("USE 2", BEYOND, x -> x.untell(2));
-        refused("the least USE there is", BEYOND, x -> x.untell(LEAST));
-        refused("the most USE there is", BEYOND, x -> x.untell(MOST));
+        beyond("USE", 0, 1, (x, v) -> x.untell(v));
         edge("there was none", x -> {
             due(x.untell(0), 0);
             due(x.untell(1), 0);

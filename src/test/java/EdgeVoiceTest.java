@@ -53,19 +53,9 @@ public final class EdgeVoiceTest extends Edges {
     }
 
     private static void arguments() {
-        refused("SHIP -1", BEYOND, x -> x.voice(-1, 0, 0, 1));
-        refused("SHIP 3 of three", BEYOND, x -> x.voice(3, 0, 0, 1));
-        refused("SHIP 0 of none", BEYOND, Edges::nothing, x -> x.voice(0, 0, 0, 1));
-        refused("the least SHIP there is", BEYOND, x -> x.voice(LEAST, 0, 0, 1));
-        refused("the most SHIP there is", BEYOND, x -> x.voice(MOST, 0, 0, 1));
-        refused("KNOT -1", BEYOND, x -> x.voice(1, -1, 0, 1));
-        refused("KNOT 3", BEYOND, x -> x.voice(1, 3, 0, 1));
-        refused("the least KNOT there is", BEYOND, x -> x.voice(1, LEAST, 0, 1));
-        refused("the most KNOT there is", BEYOND, x -> x.voice(1, MOST, 0, 1));
-        refused("VOICE -1", BEYOND, x -> x.voice(1, 0, -1, 1));
-        refused("VOICE 4", BEYOND, x -> x.voice(1, 0, 4, 1));
-        refused("the least VOICE there is", BEYOND, x -> x.voice(1, 0, LEAST, 1));
-        refused("the most VOICE there is", BEYOND, x -> x.voice(1, 0, MOST, 1));
+        beyondShips((x, v) -> x.voice(v, 0, 0, 1));
+        beyond("KNOT", 0, 2, (x, v) -> x.voice(1, v, 0, 1));
+        beyond("VOICE", 0, 3, (x, v) -> x.voice(1, 0, v, 1));
         refused("BEYOND is asked ahead of PARTED", BEYOND, x -> x.ship(5, 6), x -> x.voice(0, 3, 3, 1));
     }
 

@@ -1,5 +1,7 @@
 import java.util.ArrayList;
+import java.util.LinkedHashMap;
 import java.util.List;
+import java.util.Map;
 import java.util.Set;
 import java.util.TreeSet;
 
@@ -29,12 +31,17 @@ class Edges {
         int on(KnottedWinds x);
     }
 
+    /** One call with one number that is asked about. */
+    interface CallOf {
+        int on(KnottedWinds x, int v);
+    }
+
     /** Calls that read some of an object; they may change it, so each has an object of its own. */
     private interface Probe {
         List<Integer> of(KnottedWinds x);
     }
 
-    private static final List<Probe> PROBES = probes();
+    private static final Map<String, Probe> PROBES = probes();
     private static final Set<String> NAMES = new TreeSet<>();
     private static int promise;
     private static String name = "";
@@ -95,6 +102,23 @@ class Edges {
         unchanged(ahead, call);
     }
 
+    /** All but least .. most is BEYOND: the first on each side, below 0, and the farthest that there are. */
+    static void beyond(String of, int least, int most, CallOf call) {
+        beyond(of, least, most, Edges::some, call);
+    }
+
+    static void beyond(String of, int least, int most, Run ahead, CallOf call) {
+        for (int v : new TreeSet<>(List.of(least - 1, Math.min(least - 1, -1), most + 1, LEAST, MOST))) {
+            refused(of + " " + v, BEYOND, ahead, x -> call.on(x, v));
+        }
+    }
+
+    /** Of three SHIPS there are 0, 1, 2; of none there is not one. */
+    static void beyondShips(CallOf call) {
+        beyond("SHIP of three:", 0, 2, call);
+        beyond("SHIP of none:", 0, -1, Edges::nothing, call);
+    }
+
     /** A call that answers this, and changes nothing at all. */
     static void onlyAsks(String of, int answer, Run ahead, Call call) {
         begin(of);
@@ -133,40 +157,51 @@ class Edges {
         }
     }
 
+    /** Of two that were made alike one is asked, the other isn't: then they answer alike, whatever is read of them. */
     private static void unchanged(Run ahead, Call call) {
-        for (int i = 0; i < PROBES.size(); i++) {
+        for (String what : PROBES.keySet()) {
             KnottedWinds x = after(ahead);
             call.on(x);
-            List<Integer> got = PROBES.get(i).of(x);
-            List<Integer> want = PROBES.get(i).of(after(ahead));
+            List<Integer> got = PROBES.get(what).of(x);
+            List<Integer> want = PROBES.get(what).of(after(ahead));
             asked++;
             if (!got.equals(want)) {
-                fail("it changed something: then the answers of probe " + i + " are " + got + ", due are " + want);
+                fail("it changed something: " + what + unlike(got, want));
             }
         }
     }
 
+    private static String unlike(List<Integer> got, List<Integer> want) {
+        for (int i = 0; i < Math.min(got.size(), want.size()); i++) {
+            if (!got.get(i).equals(want.get(i))) {
+                return ", answer " + i + " is " + got.get(i) + ", due is " + want.get(i);
+            }
+        }
+        return ": " + got.size() + " answers, due are " + want.size();
+    }
+
     // ---- what is read of an object
 
-    private static List<Probe> probes() {
-        List<Probe> probes = new ArrayList<>();
-        probes.add(Edges::facts);
-        probes.add(x -> lands(x));
+    private static Map<String, Probe> probes() {
+        Map<String, Probe> probes = new LinkedHashMap<>();
+        probes.put("what it tells", x -> facts(x));
+        probes.put("LAND", x -> lands(x));
         for (int sheet = 0; sheet < 4; sheet++) {
             int s = sheet;
-            probes.add(x -> begun(x.lands(s), lands(x)));
-            probes.add(x -> begun(x.put(s, 1, 64), begun(x.lands(s), lands(x))));
-            probes.add(x -> begun(x.put(s, 0, 256), List.of(x.lands(s), x.put(s, 0, 65536), x.lands(s))));
-            probes.add(x -> length(x, s));
+            String of = " of SHEET " + s;
+            probes.put("CELLS" + of, x -> begun(x.lands(s), lands(x)));
+            probes.put("number 0" + of, x -> begun(x.put(s, 1, 64), begun(x.lands(s), lands(x))));
+            probes.put("bits" + of, x -> begun(x.put(s, 0, 256), List.of(x.lands(s), x.put(s, 0, 65536), x.lands(s))));
+            probes.put("length" + of, x -> length(x, s));
         }
-        probes.add(x -> begun(x.text(1), facts(x)));
-        probes.add(x -> begun(x.untell(0), begun(x.untell(1), List.of())));
-        probes.add(x -> begun(x.hours(1), facts(x)));
-        probes.add(x -> begun(x.draws(24), facts(x)));
-        probes.add(x -> begun(x.check(), List.of(x.check())));
-        probes.add(x -> begun(x.image(), List.of()));
-        probes.add(x -> begun(x.restore(), facts(x)));
-        probes.add(x -> begun(x.restore(), lands(x)));
+        probes.put("THE TAPE as PRICE", x -> begun(x.text(1), facts(x)));
+        probes.put("TEXTS", x -> begun(x.untell(0), List.of(x.untell(1))));
+        probes.put("an HOUR on", x -> begun(x.hours(1), facts(x)));
+        probes.put("DRAWS", x -> begun(x.draws(24), facts(x)));
+        probes.put("numbers that wait", x -> begun(x.check(), List.of(x.check())));
+        probes.put("how many IMAGES", x -> List.of(x.image()));
+        probes.put("the IMAGE", x -> begun(x.restore(), facts(x)));
+        probes.put("the IMAGE's LAND", x -> begun(x.restore(), lands(x)));
         return probes;
     }
 
@@ -216,7 +251,7 @@ class Edges {
 
     // ---- calls that many cases begin with
 
-    /** Some of everything: SHIPS 0 (SAILING), 1 (WRECKED), 2 (HOME), KNOTS, TEXTS, SHEETS 0, 1, 2, an IMAGE; 8 o'clock. */
+    /** Some of everything, at 8 o'clock: SHIPS 0 SAILING, 1 WRECKED, 2 HOME; KNOTS, TEXTS, SHEETS 0, 1, 2, an IMAGE. */
     static void some(KnottedWinds x) {
         x.ship(0, 63);
         x.ship(26, 31);

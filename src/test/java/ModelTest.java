@@ -886,6 +886,7 @@ public final class ModelTest {
     private Model y;
     private final StringBuilder run = new StringBuilder();
     private boolean wrong;
+    private int made;
     private static final long[] counted = new long[64];
 
     private int rnd(int n) {
@@ -919,6 +920,7 @@ public final class ModelTest {
     }
 
     private void due(String call, int got, int want) {
+        made++;
         run.append(call).append(" -> ").append(got).append('\n');
         if (got != want && !wrong) {
             wrong = true;
@@ -1244,7 +1246,8 @@ public final class ModelTest {
         z = seed * 7919 + 13;
         x = new KnottedWinds();
         y = new Model();
-        for (int i = 0; i < calls && !wrong; i++) {
+        // An object is used for at most 512 calls: some 80 are left for what is called together, and for the end.
+        for (int i = 0; i < calls && made < 430 && !wrong; i++) {
             int r = rnd(100);
             if (seed % 3 == 0 && i % 8 == 0) {
                 callVoyage();
@@ -1270,11 +1273,15 @@ public final class ModelTest {
             due("told(" + k + ")", x.told(k), y.told(k));
             counted[k] += y.told[k];
         }
+        if (made > 512) {
+            wrong = true;
+            System.out.println(made + " calls were made on one object");
+        }
         return !wrong;
     }
 
     public static void main(String[] args) {
-        int runs = args.length > 0 ? Integer.parseInt(args[0]) : 150;
+        int runs = args.length > 0 ? Integer.parseInt(args[0]) : 200;
         for (int seed = 1; seed <= runs; seed++) {
             if (!new ModelTest().go(seed, seed % 3 == 0 ? 140 : 460)) {
                 System.out.println("run " + seed + " is not as the second reading has it");

@@ -23,15 +23,8 @@ public final class PromiseTest {
         }
     }
 
-    private static void feed(KnottedWinds x, String s) {
-        for (int i = 0; i < s.length(); i++) {
-            x.feed(s.charAt(i), 1);
-        }
-    }
-
     private static int text(KnottedWinds x, int use, String s) {
-        feed(x, s);
-        return x.text(use);
+        return Edges.text(x, use, s);
     }
 
     /** One ship that has far to go, at 6 o'clock. */
@@ -418,7 +411,7 @@ public final class PromiseTest {
         due("a fault", text(y, 1, "5+"), -12);
         due("the one ahead stays", y.knotIs(0, 0, 5), 5);
         due("the tape is empty", y.count(6), 0);
-        feed(y, "77");
+        Edges.feed(y, "77");
         due("beyond", y.text(2), BEYOND);
         due("beyond", y.text(-1), BEYOND);
         due("the tape stays", y.count(6), 2);
@@ -1027,7 +1020,7 @@ public final class PromiseTest {
         x.seed(99);
         text(x, 0, "h+9");
         text(x, 1, "n+9");
-        feed(x, "12");
+        Edges.feed(x, "12");
         x.tell(302);
         x.sheet(0, 8, 1);
         x.image();
