@@ -152,9 +152,43 @@ public final class EdgeAheadTest extends Edges {
             x.hours(6);
             x.tie(4, 2, 3, EAST);
         }, x -> x.soonest(4, 5, 1));
+        soonestByWinds();
         soonestByDay();
         soonestByState();
         soonestWays();
+    }
+
+    /** SHIP 0 is HOME a CELL to this WAY; SHIP 1's TOLD KNOT, loosed now, blows in the HOUR h behind now alone. */
+    private static Run blowsIn(int h, int force, int way) {
+        return x -> {
+            x.ship(0, way == EAST ? 1 : 8);
+            x.ship(63, 0);
+            x.hours(6);
+            text(x, 0, "(h=" + h + ")*" + force);
+            x.tie(1, 0, 60, way);
+            x.loose(1, 0);
+        };
+    }
+
+    private static void soonestByWinds() {
+        for (int h = 0; h < 10; h++) {
+            for (int way : new int[] {EAST, SOUTH}) {
+                soonestIs("what is loosed blows in HOUR " + h + " to WAY " + way, blowsIn(h, 3, way), 10, h + 1, 3, 0);
+                if (h > 0) {
+                    neverSoonest("what is loosed blows in HOUR " + h + " to WAY " + way + ", too late",
+                        blowsIn(h, 3, way), h);
+                }
+            }
+        }
+        neverSoonest("what is loosed blows in HOUR 10, beyond n", blowsIn(10, 3, EAST), 10);
+    }
+
+    /** As blowsIn(), by 2 alone: it needs SHIP 0's KNOT 2, which blows so, too. */
+    private static Run blowsWith(int h, int way) {
+        return x -> {
+            blowsIn(h, 2, way).on(x);
+            x.tie(0, 2, 60, way);
+        };
     }
 
     private static void soonestByDay() {
@@ -192,6 +226,31 @@ public final class EdgeAheadTest extends Edges {
         x.bring(0, 0);
     }
 
+    /** Five SHIPS, each a CELL to the west of its PORT; KNOT k of SHIP s alone blows, to the east, by a CELL. */
+    private static void oneBlows(KnottedWinds x, int s, int k) {
+        for (int i = 0; i < 5; i++) {
+            x.ship(8 * i, 8 * i + 1);
+        }
+        x.hours(6);
+        x.tie(s, k, 3, EAST);
+    }
+
+    private static void onlyTied(KnottedWinds x, int s, int k) {
+        oneBlows(x, s, k);
+        for (int i = 0; i < 15; i++) {
+            if (i != 3 * s + k) {
+                x.loose(i / 3, i % 3);
+            }
+        }
+    }
+
+    private static void onlyLoosed(KnottedWinds x, int s, int k) {
+        oneBlows(x, s, k);
+        x.loose(s, k);
+        x.hours(3);
+        x.bring(s, 8 * s);
+    }
+
     private static void soonestByState() {
         soonestIs("the HOURS of a loosed one, to the east", x -> blown(x, 2, EAST), 10, 2, 3, 0);
         neverSoonest("the HOURS of a loosed one, to the east: they end", x -> blown(x, 3, EAST), 10);
@@ -222,6 +281,13 @@ public final class EdgeAheadTest extends Edges {
             x.hours(3);
             x.bring(0, 3);
         }, 10);
+        for (int i = 0; i < 15; i++) {
+            int s = i / 3;
+            int k = i % 3;
+            String of = "of five SHIPS, SHIP " + s + " KNOT " + k;
+            onlyAsks(of + " being TIED alone", k, x -> onlyTied(x, s, k), x -> x.soonest(s, 1, 1));
+            refused(of + " being loosed alone", NONE, x -> onlyLoosed(x, s, k), x -> x.soonest(s, 10, 0));
+        }
         soonestIs("a loosed one blows on", x -> {
             x.ship(0, 3);
             x.hours(6);
@@ -341,6 +407,20 @@ public final class EdgeAheadTest extends Edges {
             x.hours(6);
             x.tie(4, 2, 3, EAST);
         }, 1, 42, 5);
+        for (int h = 0; h < 24; h++) {
+            for (int way : new int[] {EAST, SOUTH}) {
+                bestIs("with what blows in HOUR " + h + " to WAY " + way, blowsWith(h, way), h + 1, 2, 1);
+            }
+        }
+        for (int ship = 0; ship < 5; ship++) {
+            int s = ship;
+            noneIsBest("of five SHIPS one is HOME without any: SHIP " + s, x -> {
+                for (int i = 0; i < 5; i++) {
+                    x.ship(8 * i, i == s ? 8 * i : 63);
+                }
+                x.hours(6);
+            }, 24);
+        }
         bestByWinds();
         bestByState();
         bestByNumbers();
@@ -533,6 +613,7 @@ public final class EdgeAheadTest extends Edges {
         whoByWinds();
         whoByDay();
         whoByState();
+        whoOfFive();
         whoLies();
     }
 
@@ -638,6 +719,80 @@ public final class EdgeAheadTest extends Edges {
         }, 1, 1, 42, 1);
     }
 
+    /** SHEET 0 tells SHIP 0 a CELL to this WAY of CELL 0, SHIP 1 in CELL 63. */
+    private static Run toldOfTwo(Run ahead, int way) {
+        return x -> {
+            ahead.on(x);
+            x.image();
+            x.sheet(0, 8, 2);
+            x.put(0, 0, way == EAST ? 1 : 8);
+            x.put(0, 1, 63);
+        };
+    }
+
+    /** From CELL 0 of its row each SHIP goes a CELL in each of two HOURS; one is HOME behind the first. */
+    private static void whoOfFive() {
+        for (int ship = 0; ship < 5; ship++) {
+            int s = ship;
+            whoIs("of five SHIPS the one in its PORT, which stays, is SHIP " + s, x -> {
+                for (int i = 0; i < 5; i++) {
+                    x.ship(8 * i, i == s ? 8 * i + 1 : 63);
+                }
+                x.drift(0, 3);
+                x.hours(1);
+                for (int i = 0; i < 5; i++) {
+                    x.bring(i, 8 * i);
+                }
+                x.image();
+                x.sheet(0, 8, 5);
+                for (int i = 0; i < 5; i++) {
+                    x.put(0, i, 8 * i + (i == s ? 1 : 2));
+                }
+            }, 2, 0, -1, 1);
+        }
+        for (int ship = 0; ship < 5; ship++) {
+            int s = ship;
+            whoIs("of five SHIPS one lies elsewhere: SHIP " + s, x -> {
+                fleet(x, 5);
+                x.hours(6);
+                x.image();
+                x.sheet(0, 8, 5);
+                for (int i = 0; i < 5; i++) {
+                    x.put(0, i, i == s ? 63 : 8 * i);
+                }
+            }, 3, 0, -1, 0);
+        }
+        for (int h = 0; h < 24; h++) {
+            for (int way : new int[] {EAST, SOUTH}) {
+                whoIs("with what blows in HOUR " + h + " to WAY " + way, toldOfTwo(blowsWith(h, way), way), h + 1, 1, 2,
+                    1);
+                whoIs("what blows in HOUR " + h + " to WAY " + way + " brings it", toldOfTwo(blowsIn(h, 3, way), way),
+                    h + 1, 5, 0, 1 + 5 * Math.min(12, h + 1));
+            }
+        }
+        whoIs("it is the IMAGE's TEXT of a TOLD one", x -> {
+            text(x, 0, "3");
+            fleet(x, 2);
+            x.tie(0, 1, 60, EAST);
+            x.hours(6);
+            x.image();
+            x.sheet(0, 8, 2);
+            x.put(0, 0, 1);
+            x.put(0, 1, 9);
+            text(x, 0, "6");
+        }, 1, 1, 1, 1);
+        whoIs("the IMAGE has no TEXT: a TOLD one as KNOT", x -> {
+            fleet(x, 2);
+            x.tie(0, 1, 63, EAST);
+            x.hours(6);
+            x.image();
+            x.sheet(0, 8, 2);
+            x.put(0, 0, 1);
+            x.put(0, 1, 9);
+            text(x, 0, "6");
+        }, 1, 1, 1, 1);
+    }
+
     private static void whoLies() {
         whoIs("with none at all, too: one way more", told(6, 0, 8), 1, 5, 0, 6);
         whoIs("the first lies elsewhere", told(6, 2, 9), 1, 0, -1, 0);
@@ -650,6 +805,14 @@ public final class EdgeAheadTest extends Edges {
             x.put(0, 0, 1);
             x.put(0, 1, -1);
         }, 1, 0, -1, 0);
+        for (int more : new int[] {64, 128, 256, 65536, LEAST}) {
+            whoIs("a number that is " + more + " more than the CELL", x -> {
+                told(6, 1, 9).on(x);
+                x.sheet(0, 32, 2);
+                x.put(0, 0, 1 + more);
+                x.put(0, 1, 9);
+            }, 1, 0, -1, 0);
+        }
         whoIs("it is the IMAGE's LAND, DRIFT, HOUR, SHIPS and KNOTS, not those now", x -> {
             told(6, 1, 9).on(x);
             x.land(1, 1);

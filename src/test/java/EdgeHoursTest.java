@@ -406,6 +406,21 @@ public final class EdgeHoursTest extends Edges {
             due(x.draws(1), 0);
             due(x.count(5), 3);
         });
+        for (int ship = 0; ship < 5; ship++) {
+            int s = ship;
+            for (int drawn = 0; drawn < 5; drawn++) {
+                int d = drawn;
+                edge("of five SHIPS, SHIP " + s + " WRECKED, one of SHIP " + d, x -> {
+                    fleet(x, 5);
+                    x.land(8 * s + 1, 1);
+                    x.drift(0, 3);
+                    x.hours(6);
+                    x.seed(seedFor(5, d, 2));
+                    due(x.draws(1), d == s ? 0 : 1);
+                    due(x.knotIs(d, 2, 3), d == s ? -1 : 6);
+                });
+            }
+        }
         edge("one of a HOME SHIP is LOOSED", x -> {
             x.ship(9, 9);
             x.hours(6);

@@ -118,7 +118,88 @@ public final class EdgeImageTest extends Edges {
             due(x.check(), 2);
         });
         kept("24 numbers that wait, the most", x -> told(x, 24), x -> x.check(), x -> due(x.tell(0), FULL));
+        keptToTheLast();
         notKept();
+    }
+
+    /** Of each row that an IMAGE keeps, its last place too. */
+    private static void keptToTheLast() {
+        kept("each CELL: LAND in each second row", x -> eachCell(x, 0), x -> eachCell(x, 1), x -> {
+            for (int cell = 0; cell < 64; cell++) {
+                due("LAND in CELL " + cell, x.land(cell, 0), cell / 8 % 2);
+            }
+        });
+        for (int ship = 0; ship < 5; ship++) {
+            int s = ship;
+            kept("of five SHIPS the CELL of SHIP " + s, Edges::five, x -> x.bring(s, 63),
+                x -> due(x.shipIs(s, 0), 8 * s + 1));
+            edge("of five SHIPS the PORT of SHIP " + s + ", others being there ahead of restore()", x -> {
+                x.image();
+                five(x);
+                due(x.restore(), 0);
+                for (int i = 0; i < 5; i++) {
+                    x.ship(63, 50 + i);
+                }
+                x.image();
+                due(x.restore(), 0);
+                due(x.shipIs(s, 1), 50 + s);
+            });
+            for (int knot = 0; knot < 3; knot++) {
+                int k = knot;
+                kept("of five SHIPS KNOT " + k + " of SHIP " + s, Edges::five, x -> x.tie(s, k, 0, (s + k + 2) % 4),
+                    x -> due(x.tie(s, k, 0, 0), 100 * wayOf(s, k) + 10 * kindOf(s, k) + mOf(s, k)));
+                kept("of five SHIPS KNOT " + k + " of SHIP " + s + ", that it is loosed", x -> {
+                    five(x);
+                    x.hours(6);
+                    x.loose(s, k);
+                }, x -> x.tie(s, k, 0, 0), x -> due(x.knotIs(s, k, 3), 6));
+            }
+        }
+        kept("a full TAPE, its last byte", x -> feed(x, "1+".repeat(29) + "k*"), x -> x.text(1),
+            x -> due(x.text(1), -70));
+        kept("a full TAPE, all of its bytes", x -> feed(x, "1+".repeat(29) + "1*"), x -> {
+            x.text(1);
+            feed(x, "?".repeat(60));
+        }, x -> due(x.text(1), -70));
+        kept("a full TAPE that is a TEXT", x -> feed(x, "1+".repeat(28) + "1001"), x -> {
+            x.text(1);
+            feed(x, "?".repeat(60));
+        }, x -> {
+            due(x.text(1), 1);
+            x.ship(5, 6);
+            due(x.knotIs(0, 0, 5), 999);
+            text(x, 1, "1001-1001");
+            due(x.knotIs(0, 0, 5), 0);
+        });
+        kept("a PRICE of 60 bytes, its last one", x -> text(x, 1, "1+".repeat(28) + "0007"), x -> x.untell(1), x -> {
+            x.ship(5, 6);
+            due(x.knotIs(0, 0, 5), 35);
+        });
+        kept("BLOWS of 60 bytes, its last one", x -> text(x, 0, "0+".repeat(28) + "0007"), x -> text(x, 0, "0"), x -> {
+            lone(x);
+            x.tie(0, 0, 60, 0);
+            due(x.loose(0, 0), 7);
+        });
+        kept("24 numbers that wait, the last one", x -> {
+            told(x, 23);
+            x.tell(5);
+        }, x -> {
+            x.check();
+            told(x, 24);
+        }, x -> due(x.check(), 24));
+        kept("24 numbers that wait, the first one", x -> {
+            x.tell(5);
+            told(x, 23);
+        }, x -> {
+            x.check();
+            told(x, 24);
+        }, x -> due(x.check(), 1));
+    }
+
+    private static void eachCell(KnottedWinds x, int rest) {
+        for (int cell = 0; cell < 64; cell++) {
+            x.land(cell, cell / 8 % 2 == rest ? 0 : 1);
+        }
     }
 
     private static void notKept() {
@@ -138,6 +219,29 @@ public final class EdgeImageTest extends Edges {
             x.restore();
             due(x.lands(0), NONE);
         });
+        for (int sheet = 0; sheet < 4; sheet++) {
+            int s = sheet;
+            edge("it isn't kept: SHEET " + s + ", its length and its numbers", x -> {
+                x.sheet(s, 8, 1);
+                x.image();
+                x.sheet(s, 32, 24);
+                for (int i = 0; i < 24; i++) {
+                    x.put(s, i, 40 + i);
+                }
+                x.restore();
+                due(x.put(s, 24, 1), BEYOND);
+                due(x.lands(s), 24);
+                for (int cell = 0; cell < 64; cell++) {
+                    due("LAND in CELL " + cell, x.land(cell, 0), cell < 40 ? 0 : 1);
+                }
+            });
+            edge("it isn't kept: SHEET " + s + ", missing ahead of it", x -> {
+                x.image();
+                x.sheet(s, 8, 1);
+                x.restore();
+                due(x.lands(s), 1);
+            });
+        }
         edge("it isn't kept: THE TRACE", x -> {
             x.ship(5, 6);
             x.voice(0, 0, 0, 1);
@@ -266,6 +370,21 @@ public final class EdgeImageTest extends Edges {
             due(x.count(7), 0);
             due(x.check(), 0);
         });
+        for (int n : new int[] {1, 2, 23, 24}) {
+            edge("none of " + n + " waits behind it", x -> {
+                told(x, n);
+                due(x.check(), 0);
+                due(x.count(7), 0);
+                due(x.tell(0), 1);
+            });
+            edge("none of " + n + " waits behind it, if the last isn't so", x -> {
+                told(x, n - 1);
+                x.tell(1);
+                due(x.check(), n);
+                due(x.count(7), 0);
+                due(x.tell(0), 1);
+            });
+        }
         edge("the first isn't so: 1 and 0", x -> checks(x, 1, 1, 0, 0, 0));
         edge("the second isn't so: 1 and 1", x -> checks(x, 2, 0, 1, 0, 0));
         edge("the last isn't so", x -> checks(x, 4, 0, 0, 0, 1));

@@ -593,6 +593,23 @@ public final class EdgeSeaTest extends Edges {
             x.loose(0, 0);
             due(x.knotIs(0, 0, 3), 9999);
         });
+        for (int i = 0; i < 15; i++) {
+            int s = i / 3;
+            int k = i % 3;
+            String of = "of five SHIPS, SHIP " + s + " KNOT " + k + ": ";
+            onlyAsks(of + "KIND", kindOf(s, k), Edges::five, x -> x.knotIs(s, k, 0));
+            onlyAsks(of + "m", mOf(s, k), Edges::five, x -> x.knotIs(s, k, 1));
+            onlyAsks(of + "WAY", wayOf(s, k), Edges::five, x -> x.knotIs(s, k, 2));
+            onlyAsks(of + "PRICE", 3 * mOf(s, k), Edges::five, x -> x.knotIs(s, k, 5));
+            edge(of + "loosed alone", x -> {
+                five(x);
+                x.hours(6);
+                x.loose(s, k);
+                for (int other = 0; other < 15; other++) {
+                    due("HOUR of " + other, x.knotIs(other / 3, other % 3, 3), other == 3 * s + k ? 6 : -1);
+                }
+            });
+        }
         forces();
         prices();
     }
@@ -619,6 +636,11 @@ public final class EdgeSeaTest extends Edges {
                         both(Edges::some, x -> x.tie(1, 1, km, 0)), x -> x.as(1, 1, asked));
                 }
             }
+        }
+        for (int i = 0; i < 15; i++) {
+            int s = i / 3;
+            int k = i % 3;
+            onlyAsks("of five SHIPS, SHIP " + s + " KNOT " + k, mOf(s, k), Edges::five, x -> x.as(s, k, 0));
         }
         onlyAsks("a loosed one, too", 3, Edges::some, x -> x.as(0, 0, 6));
         beyond("KIND", 0, 6, (x, v) -> x.as(0, 0, v));

@@ -78,6 +78,16 @@ public final class EdgeSheetTest extends Edges {
             due(x.sheet(0, 8, 5), 1);
             holds(x, 0, 8, 0, 0, 0, 0, 0);
         });
+        for (int i = 0; i < 24; i++) {
+            int last = i;
+            edge("anew: number " + i + " of 24 is 0 again", x -> {
+                x.sheet(0, 8, 24);
+                x.put(0, last, 64);
+                due(x.lands(0), last);
+                due(x.sheet(0, 8, 24), 1);
+                due(x.lands(0), 24);
+            });
+        }
         edge("anew, with fewer and then with more numbers: all 0", x -> {
             three(x);
             x.sheet(0, 8, 1);
@@ -375,6 +385,10 @@ public final class EdgeSheetTest extends Edges {
         noCell("-1 of 16 bits", 16, -1);
         noCell("64 of 32 bits", 32, 64);
         noCell("-1 of 32 bits", 32, -1);
+        for (int more : new int[] {128, 256, 65536, LEAST}) {
+            noCell(more + " more than a CELL", 32, 5 + more);
+        }
+        noCell("256 more than a CELL, of 16 bits", 16, 261);
         noCell("the least there is", 32, LEAST);
         noCell("the most there is", 32, MOST);
         edge("the first is no CELL: 0, and none becomes LAND", x -> {
@@ -455,6 +469,14 @@ public final class EdgeSheetTest extends Edges {
         onlyAsks("24 numbers: but the last", 23, courseOf24(6), x -> x.judge(0, 0));
         onlyAsks("a number that is no CELL", 1, course(0, 64), x -> x.judge(0, 0));
         onlyAsks("a number of 255", 1, course(0, 255), x -> x.judge(0, 0));
+        for (int more : new int[] {64, 128, 256, 65536, LEAST}) {
+            onlyAsks("a number that is " + more + " more than the CELL", 1, x -> {
+                x.ship(0, 63);
+                x.drift(0, 3);
+                begin(x, 0, 32, 0, 1 + more, 2);
+            }, x -> x.judge(0, 0));
+        }
+        onlyAsks("a number of 8 bits: only its lowest bits count", 3, course(256, 257, -254), x -> x.judge(0, 0));
         onlyAsks("the HOURS of a KNOT that was loosed: two more of three", 6, x -> {
             lone(x);
             x.tie(0, 0, 3, EAST);

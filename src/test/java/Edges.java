@@ -335,6 +335,28 @@ class Edges {
         x.hours(6);
     }
 
+    static int kindOf(int ship, int knot) {
+        return 1 + (3 * ship + knot) % 6;
+    }
+
+    static int mOf(int ship, int knot) {
+        return (9 - ship + 3 * knot) % 10;
+    }
+
+    static int wayOf(int ship, int knot) {
+        return (ship + knot) % 4;
+    }
+
+    /** Five SHIPS in CELLS 1, 9, 17, .., with PORTS 40, 41, ..; KNOTS of one SHIP and of one place are unlike. */
+    static void five(KnottedWinds x) {
+        for (int ship = 0; ship < 5; ship++) {
+            x.ship(8 * ship + 1, 40 + ship);
+            for (int knot = 0; knot < 3; knot++) {
+                x.tie(ship, knot, 10 * kindOf(ship, knot) + mOf(ship, knot), wayOf(ship, knot));
+            }
+        }
+    }
+
     /** As many SHIPS, in CELLS 0, 8, 16, .., all with PORT 63. */
     static void fleet(KnottedWinds x, int ships) {
         for (int ship = 0; ship < ships; ship++) {
