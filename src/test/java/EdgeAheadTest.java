@@ -183,6 +183,19 @@ public final class EdgeAheadTest extends Edges {
         neverSoonest("what is loosed blows in HOUR 10, beyond n", blowsIn(10, 3, EAST), 10);
     }
 
+    /** Five SHIPS at 7 o'clock, one WRECKED; the others are HOME by a CELL to the east, to which one KNOT blows. */
+    private static void wreckedOfFive(KnottedWinds x, int wrecked, int of) {
+        for (int i = 0; i < 5; i++) {
+            x.ship(8 * i, i == wrecked ? 63 : 8 * i + 2);
+        }
+        x.land(8 * wrecked + 1, 1);
+        x.hours(6);
+        x.drift(0, 3);
+        x.hours(1);
+        x.drift(0, 0);
+        x.tie(of, 1, 3, EAST);
+    }
+
     /** As blowsIn(), by 2 alone: it needs SHIP 0's KNOT 2, which blows so, too. */
     private static Run blowsWith(int h, int way) {
         return x -> {
@@ -407,6 +420,16 @@ public final class EdgeAheadTest extends Edges {
             x.hours(6);
             x.tie(4, 2, 3, EAST);
         }, 1, 42, 5);
+        for (int i = 0; i < 25; i++) {
+            int wrecked = i / 5;
+            int other = i % 5;
+            String of = "of five SHIPS, SHIP " + wrecked + " WRECKED, a KNOT of SHIP " + other;
+            if (wrecked == other) {
+                noneIsBest(of, x -> wreckedOfFive(x, wrecked, other), 3);
+            } else {
+                bestIs(of, x -> wreckedOfFive(x, wrecked, other), 3, 10 * other + 1, 4);
+            }
+        }
         for (int h = 0; h < 24; h++) {
             for (int way : new int[] {EAST, SOUTH}) {
                 bestIs("with what blows in HOUR " + h + " to WAY " + way, blowsWith(h, way), h + 1, 2, 1);
@@ -749,6 +772,32 @@ public final class EdgeAheadTest extends Edges {
                     x.put(0, i, 8 * i + (i == s ? 1 : 2));
                 }
             }, 2, 0, -1, 1);
+        }
+        for (int i = 0; i < 25; i++) {
+            int wrecked = i / 5;
+            int other = i % 5;
+            whoIs("of five SHIPS, SHIP " + wrecked + " WRECKED, a KNOT of SHIP " + other, x -> {
+                wreckedOfFive(x, wrecked, other);
+                x.image();
+                x.sheet(0, 8, 5);
+                for (int s = 0; s < 5; s++) {
+                    x.put(0, s, s == wrecked ? 8 * s + 1 : 8 * s + 2);
+                }
+            }, 1, wrecked == other ? 0 : 1, wrecked == other ? -1 : 10 * other + 1, wrecked == other ? 0 : 1);
+        }
+        for (int i = 0; i < 5; i++) {
+            int wrecked = i;
+            whoIs("of five SHIPS, SHIP " + wrecked + " WRECKED behind the second of five HOURS", x -> {
+                fleet(x, 5);
+                x.land(8 * wrecked + 2, 1);
+                x.hours(6);
+                x.drift(0, 3);
+                x.image();
+                x.sheet(0, 8, 5);
+                for (int s = 0; s < 5; s++) {
+                    x.put(0, s, s == wrecked ? 8 * s + 2 : 8 * s + 5);
+                }
+            }, 5, 15, 0, 1 + 12 * 5 + 3 * 2);
         }
         for (int ship = 0; ship < 5; ship++) {
             int s = ship;
